@@ -7,6 +7,7 @@ final class Promise05BarTest {
         tellsHowItWas();
         hiddenIsWalked();
         closedIsNotWalked();
+        mendsWithoutChange();
         wrong();
         Check.end("Promise05BarTest");
     }
@@ -44,6 +45,18 @@ final class Promise05BarTest {
         Check.same("the loan stands", State.text(x, 0, 0), "r0-b0:3 closed");
         x.bar(0, Shelfwalk.OPEN);
         Check.holds("sent to again", x.sent(0, 0, 4) > 2000000);
+    }
+
+    /** Sends anew what pushes had sent bit by bit, so that what is over goes another way. */
+    private static void mendsWithoutChange() {
+        Shelfwalk x = new Shelfwalk();
+        x.loan(0, 0, 99);
+        x.loan(0, 1, 98);
+        x.loan(0, 2, 97);
+        x.walk(50, 100);
+        String begun = State.of(x);
+        Check.same("stays OPEN", x.bar(4, Shelfwalk.OPEN), Shelfwalk.OPEN);
+        Check.holds("mended all the same", !State.of(x).equals(begun));
     }
 
     private static void wrong() {

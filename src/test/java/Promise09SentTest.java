@@ -3,6 +3,7 @@ final class Promise09SentTest {
     public static void main(String[] args) {
         byHand();
         anew();
+        belowZero();
         wrong();
         Check.end("Promise09SentTest");
     }
@@ -41,6 +42,23 @@ final class Promise09SentTest {
         Check.same("rest of the other", x.rest(0, 5), 6313);
         Check.same("rest below 0", x.rest(0, 4), -6313);
         Check.same("the other sent nothing", x.sent(0, 5, 0), 0);
+    }
+
+    /** Parts of units below 0 are rounded toward 0 as well. */
+    private static void belowZero() {
+        Shelfwalk x = new Shelfwalk();
+        x.walk(50, 100000);
+        x.loan(0, 0, 1);
+        x.loan(0, 1, 2);
+        Reference due = new Reference();
+        due.walk(50, 100000);
+        due.loan(0, 0, 1);
+        due.loan(0, 1, 2);
+        for (int node = 0; node < State.NODES; node++) {
+            for (int other = 0; other < State.NODES; other++) {
+                Check.same("sent by " + node, x.sent(0, node, other), due.sent[0][node][other].longValueExact());
+            }
+        }
     }
 
     private static void wrong() {

@@ -2,6 +2,7 @@
 final class Promise13ShareTest {
     public static void main(String[] args) {
         toTheLastBit();
+        stepByStep();
         sumsToOne();
         nearToLanded();
         wrong();
@@ -20,6 +21,22 @@ final class Promise13ShareTest {
         x.bar(0, Shelfwalk.CLOSED);
         Check.same("CLOSED", x.share(0, 4), 0.0);
         Check.same("the reader alone", x.share(0, 0), 1.0);
+    }
+
+    /** The order of the steps shows in the last bits of shares of full nets. */
+    private static void stepByStep() {
+        Shelfwalk x = new Shelfwalk();
+        Reference due = new Reference();
+        for (int k = 0; k < 20; k++) {
+            x.loan(k % 4, k % 5, 1 + k * 37 % 99);
+            due.loan(k % 4, k % 5, 1 + k * 37 % 99);
+            for (int reader = 0; reader < State.READERS; reader++) {
+                double[] shares = due.shares(reader);
+                for (int node = 0; node < State.NODES; node++) {
+                    Check.same("share", x.share(reader, node), shares[node]);
+                }
+            }
+        }
     }
 
     private static void sumsToOne() {

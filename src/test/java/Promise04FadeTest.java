@@ -1,60 +1,99 @@
 /** Promise 4: fade. */
 final class Promise04FadeTest {
     public static void main(String[] args) {
-        halves();
-        closedOnesFadeToo();
-        mendsWithoutLoans();
+        Check.held(4, "Lets all loans fade to the half, rounded down", Promise04FadeTest::halves);
+        Check.held(4, "Lets all loans fade", Promise04FadeTest::allOfThem);
+        Check.held(4, "those without a weight go.", Promise04FadeTest::go);
+        Check.held(4, "Returns how many loans are left.", Promise04FadeTest::left);
+        Check.held(4, "lets loans fade", Promise04FadeTest::mends);
+        Check.held(4, "whatever it changed, rests are mended, in each walk", Promise04FadeTest::mendsSameParts);
+        Check.held(4, "A node without neighbours has the reader whose walk it is as its neighbour",
+            Promise04FadeTest::allGone);
         Check.end("Promise04FadeTest");
     }
 
     private static void halves() {
-        Shelfwalk x = new Shelfwalk();
-        Check.same("none at first", x.fade(), 0);
-        x.loan(0, 0, 99);
-        x.loan(1, 1, 2);
-        x.loan(2, 2, 1);
-        x.loan(3, 4, 3);
-        Check.same("one goes", x.fade(), 3);
-        Check.same("rounded down", State.text(x, 0, 0), "r0-b0:49 open");
-        Check.same("half", State.text(x, 1, 1), "r1-b1:1 open");
-        Check.same("gone", State.text(x, 2, 2), "none");
-        Check.same("3 to 1", State.text(x, 3, 4), "r3-b4:1 open");
-        Check.badState("no loan is left", () -> x.strike(2, 2));
-        Check.same("two more go", x.fade(), 1);
-        int[] weights = {24, 12, 6, 3, 1};
-        for (int k = 1; k < weights.length; k++) {
-            Check.same("the last one", x.fade(), 1);
-            Check.same("its weight", State.text(x, 0, 0), "r0-b0:" + weights[k] + " open");
+        int[][] due = {{1, 0}, {2, 1}, {3, 1}, {4, 2}, {50, 25}, {97, 48}, {98, 49}, {99, 49}};
+        for (int[] pair : due) {
+            Shelfwalk x = new Shelfwalk();
+            x.loan(1, 1, pair[0]);
+            x.fade();
+            Check.same("of " + pair[0], State.text(x, 1, 1), pair[1] == 0 ? "none" : "r1-b1:" + pair[1] + " open");
         }
-        Check.same("goes", x.fade(), 0);
-        Check.same("and none is left", x.fade(), 0);
-        Check.same("no share of the book", x.share(0, 4), 0.0);
     }
 
-    private static void closedOnesFadeToo() {
+    private static void allOfThem() {
+        Shelfwalk x = Nets.full();
+        x.bar(1, Shelfwalk.HIDDEN);
+        x.bar(2, Shelfwalk.CLOSED);
+        String[] how = {"open", "hidden", "closed", "open", "open"};
+        x.fade();
+        for (int reader = 0; reader < State.READERS; reader++) {
+            for (int book = 0; book < State.BOOKS; book++) {
+                Check.same("text", State.text(x, reader, book), "r" + reader + "-b" + book + ":49 " + how[book]);
+            }
+        }
+    }
+
+    private static void go() {
         Shelfwalk x = new Shelfwalk();
-        x.loan(0, 0, 5);
-        x.loan(0, 1, 1);
-        x.loan(0, 2, 4);
+        x.loan(0, 0, 1);
+        x.loan(0, 1, 2);
+        x.loan(0, 2, 1);
+        x.bar(2, Shelfwalk.CLOSED);
+        x.fade();
+        Check.same("text", State.text(x, 0, 0), "none");
+        Check.same("text of a CLOSED one", State.text(x, 0, 2), "none");
+        Check.thrown("strike", Check.STATE, () -> x.strike(0, 0));
+        Check.same("listed again", x.listed(0, 0) + x.listed(0, 1) + x.listed(0, 2), 0 + 3 + 4);
+        Check.same("its share", x.share(0, 4), 0.0);
+        Check.same("comes anew", x.loan(0, 0, 1), 1);
+        Check.same("the one with a weight stays", x.strike(0, 1), 1);
+    }
+
+    private static void left() {
+        Check.same("of the empty net", Nets.empty().fade(), 0);
+        Check.same("of the full net", Nets.full().fade(), 20);
+        Check.same("of all with 1", Nets.fullOf(1).fade(), 0);
+        Shelfwalk x = Nets.fullOf(2);
+        x.strike(3, 4);
+        x.loan(0, 0, 2);
         x.bar(0, Shelfwalk.CLOSED);
-        x.bar(1, Shelfwalk.CLOSED);
-        x.bar(2, Shelfwalk.HIDDEN);
-        Check.same("left, CLOSED ones too", x.fade(), 2);
-        Check.same("CLOSED", State.text(x, 0, 0), "r0-b0:2 closed");
-        Check.same("CLOSED and gone", State.text(x, 0, 1), "none");
-        Check.same("HIDDEN", State.text(x, 0, 2), "r0-b2:2 hidden");
+        Check.same("CLOSED ones too", x.fade(), 19);
+        Check.same("but one with 2", x.fade(), 1);
+        Check.same("and none", x.fade(), 0);
+        Check.same("none once more", x.fade(), 0);
     }
 
-    private static void mendsWithoutLoans() {
-        Shelfwalk x = new Shelfwalk();
-        Reference due = new Reference();
-        x.loan(0, 0, 3);
-        due.loan(0, 0, 3);
-        for (int k = 0; k < 5; k++) {
-            Check.same("left", x.fade(), due.fade());
-            Check.same("landed", x.landed(0, 0), due.landed[0][0].longValueExact());
-            Check.same("rest", x.rest(0, 0), due.rest[0][0].longValueExact());
-            Check.same("pushes", x.pushes(), due.pushes);
-        }
+    private static void mends() {
+        Shelfwalk x = Nets.halvesOf(1, 2);
+        Check.same("sent to the first", x.sent(0, 0, 4), 166667 + 41667);
+        Check.same("sent to the second", x.sent(0, 0, 5), 333333 + 83334);
+        x.fade();
+        // The first one goes: all 625001 that the reader sent are the second one's.
+        Check.same("nothing to the first", x.sent(0, 0, 4), 0);
+        Check.same("-166667 at the first are pushed to the reader", x.sent(0, 4, 0), 83334 - 83334);
+        Check.same("landed at the first", x.landed(0, 4), 83333 - 83333);
+        Check.same("291668 at the second are pushed", x.landed(0, 5), 166666 + 145834);
+        Check.same("rest of the reader", x.rest(0, 0), 145834 - 83334);
+    }
+
+    /** Weights 2 and 10 become 1 and 5: the same parts, and still what was sent in two pushes is sent in one. */
+    private static void mendsSameParts() {
+        Shelfwalk x = Nets.halvesOf(2, 10);
+        Check.same("rest of the first", x.rest(0, 4), 0);
+        Check.same("rest of the second", x.rest(0, 5), 86805);
+        Check.same("both are left", x.fade(), 2);
+        Check.same("rest of the first, mended", x.rest(0, 4), -1);
+        Check.same("rest of the second, mended", x.rest(0, 5), 86806);
+    }
+
+    private static void allGone() {
+        Shelfwalk x = Nets.halvesOf(1);
+        x.fade();
+        Shelfwalk struck = Nets.halvesOf(1);
+        struck.strike(0, 0);
+        Check.same("as if struck out", State.walkOf(x, 0), State.walkOf(struck, 0));
+        Check.same("sent to itself", x.sent(0, 0, 0), 1056641);
     }
 }

@@ -1,9 +1,12 @@
-import java.util.List;
-
 /** Runs of calls by a fixed row of numbers, wrong ones among them, against the reference. */
 final class RandomRunsTest {
-    private static final int RUNS = 60;
-    private static final int CALLS = 512;
+    private static final int ASKING_RUNS = 300;
+    private static final int ASKING_CALLS = 512;
+    private static final int CHANGING_RUNS = 150;
+    private static final int CHANGING_CALLS = 190;
+
+    private static final int[] EDGES = {Integer.MIN_VALUE, -1, 0, 1, 49, 50, 90, 91, 99, 100, 100000, 100001,
+        Integer.MAX_VALUE};
 
     private long seed;
 
@@ -12,8 +15,11 @@ final class RandomRunsTest {
     }
 
     public static void main(String[] args) {
-        for (int run = 0; run < RUNS; run++) {
-            new RandomRunsTest(run * 7919L + 1).oneRun(run);
+        for (int run = 0; run < ASKING_RUNS; run++) {
+            new RandomRunsTest(run * 7919L + 1).ask(run);
+        }
+        for (int run = 0; run < CHANGING_RUNS; run++) {
+            new RandomRunsTest(run * 104729L + 5).change(run);
         }
         Check.end("RandomRunsTest");
     }
@@ -23,122 +29,102 @@ final class RandomRunsTest {
         return (int) ((seed >>> 33) % limit);
     }
 
-    private void oneRun(int run) {
+    /** Each answer of a run up to the last call that is promised. */
+    private void ask(int run) {
+        Asked x = new Asking(new Shelfwalk());
+        Asked due = new Reference();
+        int heavy = heaviest(run);
+        for (int call = 0; call < ASKING_CALLS; call++) {
+            int[] told = next(4) == 0 ? changing(heavy) : asking();
+            Check.same("run " + run + ", call " + call, answer(x, told), answer(due, told));
+        }
+    }
+
+    /** All that an object answers behind a run of changes. */
+    private void change(int run) {
+        int[][] calls = new int[CHANGING_CALLS][];
+        Asked due = new Reference();
+        int heavy = heaviest(run);
+        for (int call = 0; call < CHANGING_CALLS; call++) {
+            calls[call] = changing(heavy);
+            answer(due, calls[call]);
+        }
+        Check.same("changes " + run, State.of(() -> changedBy(calls)), State.ofAsked(() -> due));
+    }
+
+    private static Shelfwalk changedBy(int[][] calls) {
         Shelfwalk x = new Shelfwalk();
-        Reference due = new Reference();
-        int heavy = run % 3 == 0 ? 99 : run % 3 == 1 ? 9 : 1;
-        if (run % 4 == 1) {
-            x.walk(90, 100);
-            due.walk(90, 100);
+        Asked asked = new Asking(x);
+        for (int[] told : calls) {
+            answer(asked, told);
         }
-        for (int call = 0; call < CALLS; call++) {
-            String name = "run " + run + ", call " + call;
-            change(x, due, heavy, name);
-            compareWalks(x, due, name);
-            if (call % 8 == 0) {
-                compareRest(x, due, name);
-            }
-        }
+        return x;
     }
 
-    private void change(Shelfwalk x, Reference due, int heavy, String name) {
-        int reader = next(READERS_AND_WRONG) - 1;
-        int book = next(BOOKS_AND_WRONG) - 1;
-        boolean right = reader >= 0 && reader < 4 && book >= 0 && book < 5;
-        boolean bookRight = book >= 0 && book < 5;
+    private static int heaviest(int run) {
+        return run % 3 == 0 ? 99 : run % 3 == 1 ? 9 : 1;
+    }
+
+    private int[] changing(int heavy) {
         int kind = next(20);
-        if (kind < 10) {
-            int weight = next(heavy + 2);
-            boolean fits = weight >= 1 && weight <= 99;
-            String thrown = !right ? INDEX : fits ? NOTHING : ARGUMENT;
-            asDue(name, thrown, () -> x.loan(reader, book, weight), () -> due.loan(reader, book, weight));
-        } else if (kind < 14) {
-            String thrown = !right ? INDEX : due.isLoan(reader, book) ? NOTHING : STATE;
-            asDue(name, thrown, () -> x.strike(reader, book), () -> due.strike(reader, book));
-        } else if (kind < 18) {
-            int how = next(5) - 1;
-            String thrown = !bookRight ? INDEX : how >= 0 && how <= 2 ? NOTHING : ARGUMENT;
-            asDue(name, thrown, () -> x.bar(book, how), () -> due.bar(book, how));
-        } else if (kind < 19) {
-            asDue(name, NOTHING, () -> x.fade(), () -> due.fade());
-        } else {
-            int damping = 49 + next(43);
-            int bound = next(3) == 0 ? 99 + next(3) : 100 + next(100002 - 100);
-            String thrown = damping >= 50 && damping <= 90 && bound >= 100 && bound <= 100000 ? NOTHING : ARGUMENT;
-            asDue(name, thrown, () -> tell(x, damping, bound), () -> tell(due, damping, bound));
+        if (kind < 11) {
+            return new int[] {0, numberOr(4), numberOr(5), next(30) == 0 ? edge() : 1 + next(heavy)};
         }
-    }
-
-    private static final int READERS_AND_WRONG = 6;
-    private static final int BOOKS_AND_WRONG = 7;
-    private static final String NOTHING = "nothing";
-    private static final String INDEX = "IndexOutOfBoundsException";
-    private static final String ARGUMENT = "IllegalArgumentException";
-    private static final String STATE = "IllegalStateException";
-
-    private interface Answer {
-        int get();
-    }
-
-    private static int tell(Shelfwalk x, int damping, int bound) {
-        x.walk(damping, bound);
-        return 0;
-    }
-
-    private static int tell(Reference due, int damping, int bound) {
-        due.walk(damping, bound);
-        return 0;
-    }
-
-    private static void asDue(String name, String thrown, Answer got, Answer due) {
-        int[] answer = {0};
-        Check.same(name + " throws", Check.thrownBy(() -> answer[0] = got.get()), thrown);
-        if (thrown.equals(NOTHING)) {
-            Check.same(name, answer[0], due.get());
+        if (kind < 15) {
+            return new int[] {1, numberOr(4), numberOr(5)};
         }
-    }
-
-    private static void compareWalks(Shelfwalk x, Reference due, String name) {
-        Check.same(name + ", pushes", x.pushes(), due.pushes);
-        for (int reader = 0; reader < State.READERS; reader++) {
-            long units = 0;
-            for (int node = 0; node < State.NODES; node++) {
-                String where = name + ", reader " + reader + ", node " + node;
-                Check.same(where + ", landed", x.landed(reader, node), due.landed[reader][node].longValueExact());
-                Check.same(where + ", rest", x.rest(reader, node), due.rest[reader][node].longValueExact());
-                units += x.landed(reader, node) + x.rest(reader, node);
-                for (int other = 0; other < State.NODES; other++) {
-                    long sent = due.sent[reader][node][other].longValueExact();
-                    Check.same(where + ", sent " + other, x.sent(reader, node, other), sent);
-                }
-            }
-            Check.same(name + ", all units of " + reader, units, 1000000);
+        if (kind < 18) {
+            return new int[] {3, numberOr(5), numberOr(3)};
         }
-    }
-
-    private static void compareRest(Shelfwalk x, Reference due, String name) {
-        for (int reader = 0; reader < State.READERS; reader++) {
-            double[] shares = due.shares(reader);
-            for (int node = 0; node < State.NODES; node++) {
-                Check.same(name + ", share", x.share(reader, node), shares[node]);
-            }
-            List<Integer> list = due.list(reader);
-            for (int place = 0; place <= 6; place++) {
-                Check.same(name + ", listed", x.listed(reader, place), place < list.size() ? list.get(place) : -1);
-            }
-            for (int book = 0; book < State.BOOKS; book++) {
-                Check.same(name + ", text", State.text(x, reader, book), due.text(reader, book));
-                compareWays(x, due.ways(reader, book), reader, book, name);
-            }
+        if (kind < 19) {
+            return new int[] {2};
         }
+        int bound = next(3) == 0 ? 100 + next(3) : 100 + next(99901);
+        return new int[] {4, next(8) == 0 ? edge() : 50 + next(41), next(8) == 0 ? edge() : bound};
     }
 
-    private static void compareWays(Shelfwalk x, List<int[]> ways, int reader, int book, String name) {
-        for (int place = 0; place <= 13; place++) {
-            for (int what = 0; what < 3; what++) {
-                int want = place < ways.size() ? ways.get(place)[what] : -1;
-                Check.same(name + ", way " + reader + " " + book, x.way(reader, book, place, what), want);
-            }
+    private int[] asking() {
+        return new int[] {5 + next(9), numberOr(4), numberOr(5), next(2) == 0 ? numberOr(9) : numberOr(3), numberOr(3)};
+    }
+
+    private int numberOr(int count) {
+        return next(25) == 0 ? edge() : next(12) == 0 ? count : next(count);
+    }
+
+    private int edge() {
+        return EDGES[next(EDGES.length)];
+    }
+
+    private static String answer(Asked x, int[] told) {
+        String[] answer = {""};
+        String thrown = Check.thrownBy(() -> answer[0] = called(x, told));
+        return name(told) + (thrown.equals(Check.NOTHING) ? answer[0] : "throws " + thrown);
+    }
+
+    private static String name(int[] told) {
+        StringBuilder name = new StringBuilder("call");
+        for (int number : told) {
+            name.append(' ').append(number);
+        }
+        return name.append(": ").toString();
+    }
+
+    private static String called(Asked x, int[] told) {
+        switch (told[0]) {
+            case 0: return "" + x.loan(told[1], told[2], told[3]);
+            case 1: return "" + x.strike(told[1], told[2]);
+            case 2: return "" + x.fade();
+            case 3: return "" + x.bar(told[1], told[2]);
+            case 4: x.walk(told[1], told[2]); return "";
+            case 5: return "" + x.landed(told[1], told[3]);
+            case 6: return "" + x.rest(told[1], told[3]);
+            case 7: return "" + x.sent(told[1], told[2] + told[4] * 2, told[3]);
+            case 8: return "" + x.pushes();
+            case 9: return "" + x.listed(told[1], told[3]);
+            case 10: return "" + x.way(told[1], told[2], told[3], told[4]);
+            case 11: return "" + x.share(told[1], told[3]);
+            case 12: return "" + (int) x.text(told[1], told[2], told[3]);
+            default: return "" + x.way(told[1], told[2], 0, told[4]);
         }
     }
 }

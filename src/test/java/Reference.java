@@ -5,64 +5,147 @@ import java.util.List;
 import java.util.Map;
 import java.util.TreeMap;
 
-/** The document's words, once more and in another way, for runs of any calls. It trusts its arguments. */
-final class Reference {
+/** The document's words, once more and in another way, for runs of any calls. */
+final class Reference implements Asked {
     private static final int READERS = State.READERS;
     private static final int BOOKS = State.BOOKS;
     private static final int NODES = State.NODES;
 
     /** A loan's key is its reader times 10 and its book. */
-    final Map<Integer, Integer> loans = new TreeMap<>();
-    final int[] bars = new int[BOOKS];
-    final BigInteger[][] landed = new BigInteger[READERS][NODES];
-    final BigInteger[][] rest = new BigInteger[READERS][NODES];
-    final BigInteger[][][] sent = new BigInteger[READERS][NODES][NODES];
-    int damping = 80;
-    int bound = 1000;
-    int pushes = 0;
+    private final Map<Integer, Integer> loans = new TreeMap<>();
+    private final int[] bars = new int[BOOKS];
+    private final BigInteger[][] landed = new BigInteger[READERS][NODES];
+    private final BigInteger[][] rest = new BigInteger[READERS][NODES];
+    private final BigInteger[][][] sent = new BigInteger[READERS][NODES][NODES];
+    private int damping = 80;
+    private int bound = 1000;
+    private int pushes = 0;
 
     Reference() {
         begin();
     }
 
-    int loan(int reader, int book, int weight) {
+    public int loan(int reader, int book, int weight) {
+        known(reader, READERS);
+        known(book, BOOKS);
+        inRange(weight, 1, 99);
         int sum = loans.getOrDefault(reader * 10 + book, 0) + weight;
         loans.put(reader * 10 + book, sum > 99 ? 99 : sum);
         mend();
         return sum > 99 ? 99 : sum;
     }
 
-    boolean isLoan(int reader, int book) {
-        return loans.containsKey(reader * 10 + book);
-    }
-
-    int strike(int reader, int book) {
+    public int strike(int reader, int book) {
+        known(reader, READERS);
+        known(book, BOOKS);
+        if (!isLoan(reader, book)) {
+            throw new IllegalStateException();
+        }
         int weight = loans.remove(reader * 10 + book);
         mend();
         return weight;
     }
 
-    int fade() {
+    public int fade() {
         loans.replaceAll((loan, weight) -> weight / 2);
         loans.values().removeIf(weight -> weight == 0);
         mend();
         return loans.size();
     }
 
-    int bar(int book, int how) {
+    public int bar(int book, int how) {
+        known(book, BOOKS);
+        inRange(how, 0, 2);
         int before = bars[book];
         bars[book] = how;
         mend();
         return before;
     }
 
-    void walk(int newDamping, int newBound) {
+    public void walk(int newDamping, int newBound) {
+        inRange(newDamping, 50, 90);
+        inRange(newBound, 100, 100000);
         damping = newDamping;
         bound = newBound;
         begin();
     }
 
-    List<Integer> list(int reader) {
+    public int landed(int reader, int node) {
+        known(reader, READERS);
+        known(node, NODES);
+        return landed[reader][node].intValueExact();
+    }
+
+    public int rest(int reader, int node) {
+        known(reader, READERS);
+        known(node, NODES);
+        return rest[reader][node].intValueExact();
+    }
+
+    public int sent(int reader, int node, int other) {
+        known(reader, READERS);
+        known(node, NODES);
+        known(other, NODES);
+        return sent[reader][node][other].intValueExact();
+    }
+
+    public int pushes() {
+        return pushes;
+    }
+
+    public int listed(int reader, int place) {
+        known(reader, READERS);
+        isPlace(place);
+        List<Integer> list = list(reader);
+        return place < list.size() ? list.get(place) : -1;
+    }
+
+    public int way(int reader, int book, int place, int what) {
+        known(reader, READERS);
+        known(book, BOOKS);
+        isPlace(place);
+        inRange(what, 0, 2);
+        List<int[]> ways = ways(reader, book);
+        return place < ways.size() ? ways.get(place)[what] : -1;
+    }
+
+    public double share(int reader, int node) {
+        known(reader, READERS);
+        known(node, NODES);
+        return shares(reader)[node];
+    }
+
+    public char text(int reader, int book, int place) {
+        known(reader, READERS);
+        known(book, BOOKS);
+        isPlace(place);
+        String text = text(reader, book);
+        return place < text.length() ? text.charAt(place) : 0;
+    }
+
+    private static void known(int number, int count) {
+        if (number < 0 || number >= count) {
+            throw new IndexOutOfBoundsException();
+        }
+    }
+
+    private static void isPlace(int place) {
+        if (place < 0) {
+            throw new IndexOutOfBoundsException();
+        }
+    }
+
+    private static void inRange(int number, int least, int most) {
+        if (number < least || number > most) {
+            throw new IllegalArgumentException();
+        }
+    }
+
+    private boolean isLoan(int reader, int book) {
+        return loans.containsKey(reader * 10 + book);
+    }
+
+    private List<Integer> list(int reader) {
         List<Integer> books = new ArrayList<>();
         for (int book = 0; book < BOOKS; book++) {
             if (bars[book] == 0 && !isLoan(reader, book)) {
@@ -75,7 +158,7 @@ final class Reference {
     }
 
     /** Each way as the earlier book, the other reader, and what it carries. */
-    List<int[]> ways(int reader, int book) {
+    private List<int[]> ways(int reader, int book) {
         List<int[]> ways = new ArrayList<>();
         for (int other = 0; other < READERS; other++) {
             for (int earlier = 0; earlier < BOOKS; earlier++) {
@@ -93,7 +176,7 @@ final class Reference {
         return ways;
     }
 
-    double[] shares(int reader) {
+    private double[] shares(int reader) {
         double[][] a = new double[NODES][NODES + 1];
         for (int j = 0; j < NODES; j++) {
             Map<Integer, Integer> neighbours = neighbours(reader, j);
@@ -123,7 +206,7 @@ final class Reference {
         return x;
     }
 
-    String text(int reader, int book) {
+    private String text(int reader, int book) {
         String[] names = {"open", "hidden", "closed"};
         return isLoan(reader, book)
             ? String.format("r%d-b%d:%d %s", reader, book, loans.get(reader * 10 + book), names[bars[book]])

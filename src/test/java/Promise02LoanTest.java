@@ -19,6 +19,7 @@ final class Promise02LoanTest {
         Check.held(2, "the nodes 0 to 3 are the readers, 4 to 8 the books.", Promise02LoanTest::nodes);
         Check.held(2, "Behind each call that tells a loan", Promise02LoanTest::mends);
         Check.held(2, "whatever it changed, rests are mended, in each walk", Promise02LoanTest::mendsWithoutChange);
+        Check.held(2, "A loan is of a reader and a book", Promise02LoanTest::fullNet);
         Check.held(2, "An object is used for at most 512 calls", Promise02LoanTest::lastCall);
         Check.end("Promise02LoanTest");
     }
@@ -180,6 +181,28 @@ final class Promise02LoanTest {
     private static void mendsWithoutChange() {
         Nets.checkMended("a weight that stays 99", x -> Check.same("stays", x.loan(2, 2, 1), 99));
         Nets.checkMended("a loan of a CLOSED book", x -> Check.same("comes", x.loan(0, 4, 1), 1));
+    }
+
+    /** All twenty loans, of which one is as light and all others are as heavy as can be, with the most pushes. */
+    private static void fullNet() {
+        Reference due = new Reference();
+        tellFullNet(due);
+        Check.same("all that it answers", State.of(Promise02LoanTest::fullAndRough), State.ofAsked(() -> due));
+    }
+
+    private static Shelfwalk fullAndRough() {
+        Shelfwalk x = new Shelfwalk();
+        tellFullNet(new Asking(x));
+        return x;
+    }
+
+    private static void tellFullNet(Asked x) {
+        x.walk(90, 100);
+        for (int reader = 0; reader < State.READERS; reader++) {
+            for (int book = 0; book < State.BOOKS; book++) {
+                x.loan(reader, book, reader == 1 && book == 2 ? 1 : 99);
+            }
+        }
     }
 
     /** The call 512 answers by all calls ahead of it. */

@@ -4,9 +4,8 @@ final class Promise11ListedTest {
         Check.held(11, "Returns a book of a list.", Promise11ListedTest::ofTheReader);
         Check.held(11, "`reader`: 0 to 3", Promise11ListedTest::readers);
         Check.held(11, "`place`: 0 for the first one", Promise11ListedTest::places);
-        Check.held(11, "Returns the book; NONE if there are not so many.", Promise11ListedTest::fullList);
+        Check.held(11, "Returns the book", Promise11ListedTest::fullList);
         Check.held(11, "NONE if there are not so many.", Promise11ListedTest::notSoMany);
-        Check.held(11, "Returns the book", Promise11ListedTest::ofTheReader);
         Check.held(11, "`NONE = -1`: There is none.", Promise11ListedTest::none);
         Check.held(11, "Throws `IndexOutOfBoundsException` if there is no such reader, or place is below 0",
             Promise11ListedTest::noSuchReaderOrPlace);
@@ -14,7 +13,8 @@ final class Promise11ListedTest {
             Promise11ListedTest::openOnesWithoutLoan);
         Check.held(11, "by what landed there, greater numbers first", Promise11ListedTest::greaterFirst);
         Check.held(11, "then by numbers.", Promise11ListedTest::thenByNumbers);
-        Check.held(11, "which may be below 0", Promise11ListedTest::belowZeroComesLast);
+        Check.held(11, "greater numbers first", Promise11ListedTest::belowZeroComesLast);
+        Check.held(11, "Each reader has a walk", Promise11ListedTest::byItsOwnWalk);
         Check.end("Promise11ListedTest");
     }
 
@@ -141,5 +141,20 @@ final class Promise11ListedTest {
         Check.same("below 0 at book 0", x.landed(0, 4), -12);
         Check.same("above 0 at book 1", x.landed(0, 5), 205);
         checkList("nothing is more than that", x, 0, 1, 2, 3, 4, 0);
+    }
+
+    /** Reader 0 walks to book 3, reader 1 to book 2, and the other two to none. */
+    private static void byItsOwnWalk() {
+        Shelfwalk x = new Shelfwalk();
+        x.loan(0, 0, 1);
+        x.loan(2, 0, 1);
+        x.loan(2, 3, 1);
+        x.loan(1, 1, 1);
+        x.loan(3, 1, 1);
+        x.loan(3, 2, 1);
+        checkList("of reader 0", x, 0, 3, 1, 2, 4);
+        checkList("of reader 1", x, 1, 2, 0, 3, 4);
+        checkList("of reader 2", x, 2, 1, 2, 4);
+        checkList("of reader 3", x, 3, 0, 3, 4);
     }
 }

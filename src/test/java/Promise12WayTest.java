@@ -8,9 +8,9 @@ final class Promise12WayTest {
         Check.held(12, "`book`: 0 to 4", Promise12WayTest::books);
         Check.held(12, "`place`: 0 for the first one", Promise12WayTest::places);
         Check.held(12, "`what`: 0 the earlier book; 1 the other reader; 2 what it carries", Promise12WayTest::whats);
-        Check.held(12, "0 the earlier book", Promise12WayTest::whats);
-        Check.held(12, "1 the other reader", Promise12WayTest::whats);
-        Check.held(12, "2 what it carries", Promise12WayTest::whats);
+        Check.held(12, "0 the earlier book", Promise12WayTest::earlierBook);
+        Check.held(12, "1 the other reader", Promise12WayTest::otherReader);
+        Check.held(12, "2 what it carries", Promise12WayTest::whatItCarries);
         Check.held(12, "Returns the number", Promise12WayTest::most);
         Check.held(12, "NONE if there are not so many.", Promise12WayTest::notSoMany);
         Check.held(12, "Throws `IndexOutOfBoundsException` if there is no such reader or book, or place is below 0",
@@ -21,7 +21,7 @@ final class Promise12WayTest {
         Check.held(12, "IndexOutOfBoundsException is thrown where there is no such reader, book, node, or place",
             Promise12WayTest::indexes);
         Check.held(12, "IllegalArgumentException if another argument is out of range.",
-            Promise12WayTest::whatOutOfRange);
+            Promise12WayTest::otherArguments);
         Check.held(12, "is from the reader to the earlier book, to the other reader, to the book",
             Promise12WayTest::threeLoans);
         Check.held(12, "all loans of books that are not CLOSED", Promise12WayTest::notClosed);
@@ -121,6 +121,43 @@ final class Promise12WayTest {
         Check.thrown("one beyond", Check.ARGUMENT, () -> x.way(0, 1, 0, 3));
     }
 
+    private static void earlierBook() {
+        for (int earlier = 0; earlier < State.BOOKS; earlier++) {
+            int book = earlier == 4 ? 0 : 4;
+            Shelfwalk x = new Shelfwalk();
+            x.loan(1, earlier, 1);
+            x.loan(2, earlier, 1);
+            x.loan(2, book, 1);
+            Check.same("over book " + earlier, x.way(1, book, 0, 0), earlier);
+        }
+    }
+
+    private static void otherReader() {
+        for (int other = 0; other < State.READERS; other++) {
+            int reader = other == 3 ? 0 : 3;
+            Shelfwalk x = new Shelfwalk();
+            x.loan(reader, 1, 1);
+            x.loan(other, 1, 1);
+            x.loan(other, 2, 1);
+            Check.same("over reader " + other, x.way(reader, 2, 0, 1), other);
+        }
+    }
+
+        private static void whatItCarries() {
+        Shelfwalk x = new Shelfwalk();
+        x.loan(0, 0, 1);
+        x.loan(1, 0, 99);
+        x.loan(1, 1, 99);
+        Check.same("1 of 1, 99 of 100, 99 of 198", x.way(0, 1, 0, 2), 990000 / 2);
+        x.strike(1, 1);
+        x.loan(1, 1, 1);
+        Check.same("1 of 1, 99 of 100, 1 of 100", x.way(0, 1, 0, 2), 9900);
+        x.strike(1, 0);
+        x.loan(1, 0, 1);
+        x.loan(0, 0, 98);
+        Check.same("99 of 99, 1 of 100, 1 of 2", x.way(0, 1, 0, 2), 5000);
+    }
+
     /** Over four books and three readers, in the full net. */
     private static void most() {
         Shelfwalk x = Nets.full();
@@ -181,6 +218,15 @@ final class Promise12WayTest {
         Check.thrown("book", Check.INDEX, () -> x.way(0, 5, 0, 0));
         Check.thrown("node", Check.INDEX, () -> x.landed(0, 9));
         Check.thrown("place", Check.INDEX, () -> x.way(0, 0, -1, 0));
+    }
+
+    private static void otherArguments() {
+        Shelfwalk x = new Shelfwalk();
+        Check.thrown("weight", Check.ARGUMENT, () -> x.loan(0, 0, 100));
+        Check.thrown("how", Check.ARGUMENT, () -> x.bar(0, 3));
+        Check.thrown("damping", Check.ARGUMENT, () -> x.walk(91, 1000));
+        Check.thrown("bound", Check.ARGUMENT, () -> x.walk(80, 100001));
+        Check.thrown("what", Check.ARGUMENT, () -> x.way(0, 0, 0, 3));
     }
 
     private static void threeLoans() {

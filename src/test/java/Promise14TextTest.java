@@ -1,14 +1,15 @@
 /** Promise 14: text. */
 final class Promise14TextTest {
     public static void main(String[] args) {
-        Check.held(14, "Returns a sign of the text of a loan: \"r\", the reader, \"-b\", the book", Promise14TextTest::all);
+        Check.held(14, "Returns a sign of the text of a loan: \"r\", the reader, \"-b\", the book",
+            Promise14TextTest::all);
         Check.held(14, "\":\" and the weight", Promise14TextTest::weights);
         Check.held(14, "\" open\", \" hidden\" or \" closed\" by the book's bar", Promise14TextTest::bars);
         Check.held(14, "without a loan \"none\".", Promise14TextTest::none);
         Check.held(14, "`reader`: 0 to 3", Promise14TextTest::readers);
         Check.held(14, "`book`: 0 to 4", Promise14TextTest::books);
         Check.held(14, "`place`: from 0", Promise14TextTest::places);
-        Check.held(14, "Returns the sign", Promise14TextTest::places);
+        Check.held(14, "Returns the sign", Promise14TextTest::signs);
         Check.held(14, "a 0 behind the last one.", Promise14TextTest::behindTheLast);
         Check.held(14, "Throws `IndexOutOfBoundsException` if there is no such reader or book, or place is below 0",
             Promise14TextTest::noSuchReaderBookOrPlace);
@@ -80,13 +81,19 @@ final class Promise14TextTest {
 
     private static void places() {
         Shelfwalk x = Nets.full();
+        Check.same("the first", x.text(3, 4, 0), 'r');
+        Check.same("the second", x.text(3, 4, 1), '3');
+        Check.same("the first once more", x.text(3, 4, 0), 'r');
+        Check.thrown("one below", Check.INDEX, () -> x.text(3, 4, -1));
+    }
+
+    private static void signs() {
+        Shelfwalk x = Nets.full();
         x.bar(4, Shelfwalk.CLOSED);
         String due = "r3-b4:99 closed";
         for (int place = 0; place < due.length(); place++) {
             Check.same("place " + place, x.text(3, 4, place), due.charAt(place));
         }
-        Check.same("the same place once more", x.text(3, 4, 0), 'r');
-        Check.thrown("one below", Check.INDEX, () -> x.text(3, 4, -1));
     }
 
     private static void behindTheLast() {

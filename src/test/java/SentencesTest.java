@@ -2,20 +2,25 @@ import java.io.IOException;
 import java.nio.file.Files;
 import java.nio.file.Path;
 import java.util.ArrayList;
+import java.util.HashSet;
 import java.util.List;
+import java.util.Set;
 import java.util.regex.Matcher;
 import java.util.regex.Pattern;
 import java.util.stream.Stream;
 
-/** That each sentence of the document is named by a test, in the promise's own test if it is one of a promise. */
+/** That each sentence of the document is named by a test of its own, under its promise if it is one of a promise. */
 final class SentencesTest {
     private static final Path TESTS = Path.of("src/test/java");
-    private static final Pattern HELD = Pattern.compile("Check\\.held\\((\\d+), \"((?:[^\"\\\\]|\\\\.)*)\"");
+    private static final Pattern HELD =
+        Pattern.compile("Check\\.held\\((\\d+), \"((?:[^\"\\\\]|\\\\.)*)\",\\s+(\\w+::\\w+)\\)");
     private static final int PROMISES = 14;
 
     /** What the first section says of itself, and of what is free, can't be broken. */
     private static final List<String> WITHOUT_TEST = List.of("A recommender by walks over loans:",
         "what later calls answer is free.");
+
+    private static final Set<String> METHODS = new HashSet<>();
 
     public static void main(String[] args) throws IOException {
         List<List<String>> held = heldWords();
@@ -48,6 +53,7 @@ final class SentencesTest {
                     String words = matcher.group(2).replace("\\\"", "\"");
                     held.get(Integer.parseInt(matcher.group(1))).add(words);
                     held.get(Document.ALL).add(words);
+                    Check.holds(matcher.group(3) + " holds one sentence alone", METHODS.add(matcher.group(3)));
                 }
             }
         }

@@ -32,7 +32,7 @@ public final class Shelfwalk {
 
     public Shelfwalk() {
         for (int reader = 0; reader < READERS; reader++) {
-            walks[reader] = new Walk(net, reader);
+            walks[reader] = new Walk(reader);
         }
         beginWalks();
     }
@@ -182,15 +182,15 @@ public final class Shelfwalk {
     private void beginWalks() {
         for (int reader = 0; reader < READERS; reader++) {
             walks[reader].begin();
-            walks[reader].settle(damping, bound);
+            walks[reader].settle(net, damping, bound);
         }
     }
 
     // Also runs where the net is as it was: sending anew rounds otherwise than the pushes did.
     private void mendWalks() {
         for (int reader = 0; reader < READERS; reader++) {
-            walks[reader].mend();
-            walks[reader].settle(damping, bound);
+            walks[reader].mend(net);
+            walks[reader].settle(net, damping, bound);
         }
     }
 
@@ -341,15 +341,13 @@ public final class Shelfwalk {
         // Each push lands 10 units or more; of the rests, without signs, there are never 100 million.
         private static final int MOST_PUSHES = 10000000;
 
-        private final Net net;
         private final int reader;
         private final long[] landings = new long[NODES];
         private final long[] rests = new long[NODES];
         private final long[][] sendings = new long[NODES][NODES];
         private int pushed = 0;
 
-        Walk(Net net, int reader) {
-            this.net = net;
+        Walk(int reader) {
             this.reader = reader;
         }
 
@@ -380,17 +378,17 @@ public final class Shelfwalk {
             rests[reader] = UNITS;
         }
 
-        void settle(int damping, int bound) {
+        void settle(Net net, int damping, int bound) {
             int node = lowestUnsettled(bound);
             for (int count = 0; count < MOST_PUSHES && node != NONE; count++) {
-                push(node, damping);
+                push(net, node, damping);
                 node = lowestUnsettled(bound);
             }
         }
 
-        void mend() {
+        void mend(Net net) {
             for (int node = 0; node < NODES; node++) {
-                send(node, takeBack(node));
+                send(net, node, takeBack(node));
             }
         }
 
@@ -403,12 +401,12 @@ public final class Shelfwalk {
             return NONE;
         }
 
-        private void push(int node, int damping) {
+        private void push(Net net, int node, int damping) {
             long taken = rests[node];
             long landing = taken * (100 - damping) / 100;
             rests[node] = 0;
             landings[node] += landing;
-            send(node, taken - landing);
+            send(net, node, taken - landing);
             pushed++;
         }
 
@@ -424,7 +422,7 @@ public final class Shelfwalk {
         }
 
         // The lowest neighbour's part and what is over are, in one, what the others do not get.
-        private void send(int node, long units) {
+        private void send(Net net, int node, long units) {
             int count = net.neighbourCount(node);
             int sum = net.weightOfAll(node);
             if (count == 0 || sum == 0) {

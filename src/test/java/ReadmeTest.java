@@ -1,8 +1,5 @@
-import java.io.ByteArrayOutputStream;
+import java.io.File;
 import java.io.IOException;
-import java.io.PrintStream;
-import java.net.URL;
-import java.net.URLClassLoader;
 import java.nio.charset.StandardCharsets;
 import java.nio.file.Files;
 import java.nio.file.Path;
@@ -11,7 +8,6 @@ import java.util.List;
 import java.util.regex.Matcher;
 import java.util.regex.Pattern;
 import java.util.stream.Stream;
-import javax.tools.ToolProvider;
 
 /** That README.md tells what is so: its example prints what stands behind it, its face is the document's. */
 final class ReadmeTest {
@@ -66,29 +62,19 @@ final class ReadmeTest {
         Files.writeString(file, "public final class Example { public static void main(String[] args) {\n"
             + String.join("\n", lines) + "\n} }\n");
         String path = System.getProperty("java.class.path");
-        int failures = ToolProvider.getSystemJavaCompiler()
-            .run(null, null, null, "-classpath", path, "-d", folder.toString(), file.toString());
-        Check.same("the example compiles", failures, 0);
-        List<String> printed = run(folder);
-        try (Stream<Path> files = Files.list(folder)) {
-            for (Path made : files.toList()) {
-                Files.delete(made);
-            }
-        }
+        answered("javac", "-cp", path, "-d", folder.toString(), file.toString());
+        List<String> printed = answered("java", "-cp", path + File.pathSeparator + folder, "Example");
+        Files.deleteIfExists(folder.resolve("Example.class"));
+        Files.delete(file);
         Files.delete(folder);
         return printed;
     }
 
-    private static List<String> run(Path folder) throws Exception {
-        PrintStream out = System.out;
-        ByteArrayOutputStream printed = new ByteArrayOutputStream();
-        try (URLClassLoader loader = new URLClassLoader(new URL[] {folder.toUri().toURL()})) {
-            System.setOut(new PrintStream(printed, true, StandardCharsets.UTF_8));
-            loader.loadClass("Example").getMethod("main", String[].class).invoke(null, (Object) new String[0]);
-        } finally {
-            System.setOut(out);
-        }
-        return printed.toString(StandardCharsets.UTF_8).lines().toList();
+    private static List<String> answered(String... command) throws Exception {
+        Process process = new ProcessBuilder(command).redirectError(ProcessBuilder.Redirect.INHERIT).start();
+        String answer = new String(process.getInputStream().readAllBytes(), StandardCharsets.UTF_8);
+        Check.same(command[0] + " ends", process.waitFor(), 0);
+        return answer.lines().toList();
     }
 
     private static void checkFace(List<String> told, List<String> due) throws IOException {

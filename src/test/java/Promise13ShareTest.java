@@ -100,8 +100,8 @@ final class Promise13ShareTest {
     private static void emptyNet() {
         for (int reader = 0; reader < State.READERS; reader++) {
             Shelfwalk x = new Shelfwalk();
-            for (int damping : new int[] {80, 50, 90, 73}) {
-                x.walk(damping, 1000);
+            for (int damping = 50; damping <= 90; damping++) {
+                x.walk(damping, 100000);
                 for (int node = 0; node < State.NODES; node++) {
                     Check.same("damping " + damping, x.share(reader, node), node == reader ? 1.0 : 0.0);
                 }
